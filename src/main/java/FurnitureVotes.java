@@ -72,9 +72,9 @@ public final class FurnitureVotes {
         reader = new Reader();
         hall = new Hall();
         course = new Course();
-        verdicts = new Verdicts(hall);
-        seating = new Seating(hall);
-        joinery = new Joinery(hall);
+        verdicts = new Verdicts();
+        seating = new Seating();
+        joinery = new Joinery();
         powers = new Powers();
     }
 
@@ -336,7 +336,7 @@ public final class FurnitureVotes {
             return NO_LEAD;
         }
         int lead = seating.seatGreedily(room, motion);
-        return k == NONE ? lead : hall.room.seat[k];
+        return k == NONE ? lead : seating.seatOf(k);
     }
 
     public int agenda(int chamber, int a, int b, int c, boolean order) {
@@ -416,10 +416,7 @@ public final class FurnitureVotes {
 
     public int kin(int chamber, int a, int b) {
         Chamber room = told.chamberAt(chamber);
-        if (room == null || !room.hasPiece(a) || !room.hasPiece(b)) {
-            return NONE;
-        }
-        return verdicts.agreements(room, a, b);
+        return room == null ? NONE : verdicts.agreements(room, a, b);
     }
 
     public int trade(int chamber, int motion) {
@@ -445,9 +442,8 @@ public final class FurnitureVotes {
         if (room == null || !room.hasPerson(person)) {
             return NO_LEAD;
         }
-        hall.enter(room);
-        int lead = seating.seatBest(person, motion);
-        return most ? lead : hall.room.seat[person];
+        int lead = seating.seatOneBest(room, motion, person);
+        return most ? lead : seating.seatOf(person);
     }
 
     public int hinge(int chamber, int motion, boolean loudest) {
@@ -1201,7 +1197,6 @@ public final class FurnitureVotes {
             room.copyFrom(asTold);
             Arrays.fill(wax, 0);
             Arrays.fill(load, 0);
-            Arrays.fill(said, 0);
             overs = 0;
             ayes = 0;
             noes = 0;
@@ -1531,13 +1526,9 @@ public final class FurnitureVotes {
         private static final int MOST_DAYS = 9;
         private static final int MOST_NIGHTS = 40;
 
-        private final Hall hall;
+        private final Hall hall = new Hall();
         private long[] chances = new long[MOST_DAMP + 1];
         private long[] chancesNext = new long[MOST_DAMP + 1];
-
-        Verdicts(Hall itsHall) {
-            hall = itsHall;
-        }
 
         long carriedSet(Chamber room) {
             hall.enter(room);
@@ -1718,12 +1709,8 @@ public final class FurnitureVotes {
     /** What comes of it if people sit otherwise. */
     private static final class Seating {
         final int[] row = new int[PEOPLE];
-        private final Hall hall;
+        private final Hall hall = new Hall();
         private int rowNumber;
-
-        Seating(Hall itsHall) {
-            hall = itsHall;
-        }
 
         /** How many have to sit elsewhere; row is then where all sit. */
         int fewestMoves(Chamber room, int motion) {
@@ -1796,8 +1783,18 @@ public final class FurnitureVotes {
             return hall.vote(motion);
         }
 
+        int seatOneBest(Chamber room, int motion, int w) {
+            hall.enter(room);
+            return seatBest(w, motion);
+        }
+
+        /** Where one sits in the end. */
+        int seatOf(int w) {
+            return hall.room.hasPerson(w) ? hall.room.seat[w] : STANDS;
+        }
+
         /** Seats one where the lead is most then: that lead. */
-        int seatBest(int w, int motion) {
+        private int seatBest(int w, int motion) {
             int most = NO_LEAD;
             int best = STANDS;
             for (int i = 0; i <= hall.room.pieces; i++) {
@@ -1851,11 +1848,7 @@ public final class FurnitureVotes {
         private static final int MOST_NIGHTS = 60;
 
         final int[] row = new int[MOST_WAXES];
-        private final Hall hall;
-
-        Joinery(Hall itsHall) {
-            hall = itsHall;
-        }
+        private final Hall hall = new Hall();
 
         /** How many waxes it takes; row is then on which pieces. */
         int fewestWaxes(Chamber room, int motion, boolean wanted) {
@@ -2034,7 +2027,6 @@ public final class FurnitureVotes {
         void hear(Chamber room) {
             pieces = room.pieces;
             sets = 1 << pieces;
-            sums[0] = 0;
             for (int p = 0; p < pieces; p++) {
                 voices[p] = room.voices[p];
                 int bit = 1 << p;

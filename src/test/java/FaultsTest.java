@@ -30,6 +30,8 @@ public final class FaultsTest {
         Play.faulty(0, "bench elm 1 2 3 4;", 1, 6);
         Play.faulty(0, "Bench oak 1 2 3 4;", 1, 0);
         Play.faulty(0, "benches oak 1 2 3 4;", 1, 0);
+        Play.faulty(0, "benchz oak 1 2 3 4;", 1, 0);
+        Play.faulty(0, "abench oak 1 2 3 4;", 1, 0);
         Play.faulty(0, "bench oak 1 002 3 4;", 1, 12);
         Play.faulty(0, "bench oak 1 2 3 4 5;", 1, 18);
         Play.faulty(0, "damp 99;damp 1,", 1, 14);
@@ -64,10 +66,12 @@ public final class FaultsTest {
     }
 
     private static void ranges() {
-        range(0, "bench oak ", " 1 0 1;", 0, 50);
-        range(0, "stool walnut 0 ", " 0 1;", 1, 99);
-        range(0, "chair pine 0 1 ", " 1;", 0, 63);
-        range(0, "table oak 0 1 0 ", ";", 1, 9);
+        for (String kind : Oracle.KINDS) {
+            range(0, kind + " oak ", " 1 0 1;", 0, 50);
+            range(0, kind + " walnut 0 ", " 0 1;", 1, 99);
+            range(0, kind + " pine 0 1 ", " 1;", 0, 63);
+            range(0, kind + " oak 0 1 0 ", ";", 1, 9);
+        }
         range(0, "stands ", ";", 1, 30);
         range(0, "damp ", ";", 0, 9);
         range(0, "bench oak 0 1 0 1;sits ", " 0;", 1, 30);
@@ -78,9 +82,11 @@ public final class FaultsTest {
         range(1, "set ", ";", 0, 7);
         range(1, "sit ", " 0;", 0, 5);
         range(1, "sit 0 ", ";", 0, 7);
-        range(2, "sounds ", " 0 0;", 0, 60);
-        range(2, "still 0 ", " 0;", 0, 9);
-        range(2, "sounds 0 0 ", ";", 0, 6);
+        for (String head : new String[] {"sounds", "still"}) {
+            range(2, head + " ", " 0 0;", 0, 60);
+            range(2, head + " 0 ", " 0;", 0, 9);
+            range(2, head + " 0 0 ", ";", 0, 6);
+        }
     }
 
     private static void range(int sort, String ahead, String behind, int least, int most) {

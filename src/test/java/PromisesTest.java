@@ -361,6 +361,9 @@ public final class PromisesTest {
         due(votes.nearest(0, 3), 11);
         due(votes.worded(0, 0), 8);
         due(votes.worded(0, 16), 16);
+        of("15 nearest, 28 worded, far away", "bench oak 0 18 63 1;");
+        due(votes.nearest(0, 0), 63);
+        due(votes.worded(0, 0), 63);
         of("29 clear", "bench oak 0 3 3 2;stool oak 0 3 2 1;");
         due(votes.carried(0, -1), 48);
         due(votes.clear(0, -1), 16);
@@ -587,6 +590,12 @@ public final class PromisesTest {
         due(votes.fits(0, 0), 3);
         due(votes.fits(0, 1), -1);
         due(votes.fits(0, 2), 5);
+        Play.tell(votes, 2, 0, "sounds 5 0 0;still 4 0 0;still 0 9 0;");
+        due(votes.fits(0, 1), 0);
+        due(votes.fits(0, 2), 5);
+        Play.tell(votes, 2, 0, "sounds 5 1 0;still 4 1 0;");
+        due(votes.fits(0, 0), 3);
+        due(votes.fits(0, 2), -1);
         Play.tell(votes, 2, 0, "sounds 0 0 0;");
         due(votes.fits(0, 0), 0);
         due(votes.fits(0, 1), -1);
@@ -822,6 +831,8 @@ public final class PromisesTest {
         due(votes.trade(0, 0), -1);
         of("38 oaken, two", "bench walnut 0 3 0 2;bench pine 0 6 0 2;bench pine 0 6 0 2;stool oak 1 1 0 3;");
         due(votes.oaken(0, 0), 3);
+        of("38 oaken, all", "bench pine 0 6 0 1;".repeat(8));
+        due(votes.oaken(0, 0), 255);
         of("38 oaken, carried then", "bench oak 1 1 0 1;stool oak 1 1 0 1;stool pine 0 6 0 1;bench oak 1 1 0 1;");
         due(votes.oaken(0, 0), 4);
     }
