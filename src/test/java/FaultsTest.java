@@ -14,6 +14,8 @@ public final class FaultsTest {
 
     public static void main(String[] args) {
         byHand();
+        cutTapes();
+        fullTapes();
         for (int seed = 1; seed <= 6000; seed++) {
             hurt(new Random(seed));
         }
@@ -63,6 +65,38 @@ public final class FaultsTest {
         Play.faulty(1, "night;".repeat(41), 3, 240);
         Play.faulty(2, "still 0 0 0;".repeat(8), 0, -1);
         Play.faulty(2, "still 0 0 0;".repeat(9), 3, 96);
+    }
+
+    /** What was on the tape behind its end is no part of the text. */
+    private static void cutTapes() {
+        cut("damp 12;", 6, 1, 6);
+        cut("damp 123;", 7, 1, 7);
+        cut("damp 1;  ;", 7, 0, -1);
+        cut("damp 1; \n;", 8, 0, -1);
+        cut("damp 1;stands 1;", 12, 1, 7);
+        cut("damp 1;stands 1;", 13, 1, 13);
+        cut("damp  1;", 5, 1, 5);
+    }
+
+    private static void cut(String text, int length, int fault, int place) {
+        FurnitureVotes votes = new FurnitureVotes();
+        Play.bring(votes, Play.bytes(text));
+        Play.due("end of '" + text + "'", votes.end(length), length);
+        Play.due("text of '" + text + "' cut", votes.text(0, -1), fault == 0 ? 0 : -1);
+        Play.due("fault(0) of '" + text + "' cut", votes.fault(0), fault);
+        Play.due("fault(1) of '" + text + "' cut", votes.fault(1), place);
+    }
+
+    private static void fullTapes() {
+        Play.faulty(0, "damp 1;" + " ".repeat(593), 0, -1);
+        Play.faulty(0, " ".repeat(594) + "damp 1", 1, 600);
+        Play.faulty(0, " ".repeat(593) + "damp 12", 1, 600);
+        Play.faulty(0, " ".repeat(592) + "damp 123", 1, 597);
+        Play.faulty(0, " ".repeat(596) + "damp", 1, 600);
+        Play.faulty(0, "x".repeat(600), 1, 0);
+        Play.faulty(0, "damp 1;" + "7".repeat(593), 1, 7);
+        Play.faulty(0, ";".repeat(600), 1, 0);
+        Play.faulty(0, "damp1;".repeat(100), 0, -1);
     }
 
     private static void ranges() {

@@ -3,6 +3,9 @@ import java.util.Random;
 
 /** Holds every answer about chambers, sessions and logs against the oracle, on rooms drawn by fixed seeds. */
 public final class OracleTest {
+    private static final String FULL = "stool pine 50 1 63 9;".repeat(3) + "chair walnut 9 9 9 9;bench pine 0 6 7 8;".repeat(2)
+        + "table oak 0 1 0 9;" + "sits 30 7;".repeat(3) + "sits 9 3;sits 9 5;sits 9 0;";
+
     private static Random random;
     private static Oracle.Room room;
     private static FurnitureVotes votes;
@@ -26,8 +29,24 @@ public final class OracleTest {
         Play.finish("OracleTest");
     }
 
+    /** An object that answered of a full room before, so that what is left in its rows would show. */
     private static void fresh() {
-        votes = Play.chamber(room.text());
+        votes = Play.chamber(FULL);
+        Play.tell(votes, 1, -1, "motion 63;wax 7;night;");
+        for (int motion = 0; motion < 64; motion += 21) {
+            votes.moves(0, motion, -1);
+            votes.greedy(0, motion, -1);
+            votes.waxed(0, motion, false, -1);
+            votes.lobby(0, motion, 2, true);
+            votes.weather(0, motion, 9, 7, false);
+            votes.oaken(0, motion);
+            votes.hinge(0, motion, false);
+        }
+        votes.power(0, 0);
+        votes.after(0, 0, 1);
+        votes.drawn(0, 1, 60, 3);
+        Play.due(where + "text(0, 0)", Play.tell(votes, 0, 0, room.text()), 0);
+        Play.due(where + "text(1, 0)", Play.tell(votes, 1, 0, ""), 0);
     }
 
     private static void due(String call, long got, long want) {
@@ -148,7 +167,7 @@ public final class OracleTest {
         List<int[]> deeds = likely ? Oracle.likelyDeeds(random, room, 40) : Oracle.randomDeeds(random, 40);
         String text = Oracle.deedsText(deeds);
         String in = "in '" + text + "' ";
-        due(in + "text", Play.tell(votes, 1, -1, text), 0);
+        due(in + "text", Play.tell(votes, 1, 0, text), 0);
         due(in + "deeds", votes.deed(0, -1, 0), deeds.size());
         int stop = Oracle.stop(room, deeds);
         due(in + "stop", votes.stop(0, 0), stop);

@@ -42,7 +42,12 @@ public final class StormTest {
 
     private static String someText(Random random, int sort) {
         if (sort == 0) {
-            return Oracle.randomRoom(random, 8, 6).text();
+            Oracle.Room room = Oracle.randomRoom(random, 8, 6);
+            // Full rooms are where a step too far would leave a row.
+            while (random.nextInt(4) != 0 && (room.pieces.size() < 8 || room.people.size() < 6)) {
+                room = Oracle.randomRoom(random, 8, 6);
+            }
+            return room.text();
         }
         return sort == 1 ? Oracle.deedsText(Oracle.randomDeeds(random, 40)) : Oracle.factsText(Oracle.randomFacts(random));
     }
