@@ -99,14 +99,16 @@ public final class FurnitureVotes {
     }
 
     public int text(int sort, int at) {
+        // Every text() takes the tape, also one that reads nothing of it.
+        int length = told.length;
+        told.length = 0;
         told.fault = 0;
         told.faultPlace = NONE;
         int number = told.numberFor(sort, at);
         if (number == NONE) {
             return NO_SUCH;
         }
-        reader.read(sort, told.tape, told.length);
-        told.length = 0;
+        reader.read(sort, told.tape, length);
         told.fault = reader.fault;
         told.faultPlace = reader.faultPlace;
         if (reader.fault != 0) {

@@ -17,6 +17,7 @@ public final class PromisesTest {
         newObject();
         tape();
         texts();
+        takenTapes();
         chambers();
         answers();
         kindsOfPieces();
@@ -117,14 +118,14 @@ public final class PromisesTest {
         promise = "4 text, 5 fault, 42 count";
         votes = new FurnitureVotes();
         due(Play.tell(votes, 0, 0, "damp 1;"), -2);
-        due(votes.end(7), 7);
-        due(votes.text(0, -1), 0);
-        due(votes.end(0), 0);
+        due(votes.end(1), -1);
+        due(Play.tell(votes, 0, -1, "damp 1;"), 0);
+        due(votes.end(1), -1);
         due(Play.tell(votes, 0, -1, "damp 2;"), 1);
         due(Play.tell(votes, 0, -1, "damp 33;"), -2);
         due(votes.fault(0), 0);
         due(votes.fault(1), -1);
-        due(votes.text(0, 1), -1);
+        due(Play.tell(votes, 0, 1, "damp 33;"), -1);
         due(votes.fault(0), 2);
         due(votes.fault(1), 5);
         due(votes.fault(2), -1);
@@ -149,6 +150,43 @@ public final class PromisesTest {
         due(votes.count(1), 1);
         due(votes.count(2), 2);
         due(votes.text(1, 1), -2);
+    }
+
+    /** Whatever text() answers, nothing of the tape is left for the next text, and an image still has its own. */
+    private static void takenTapes() {
+        promise = "4 text takes the tape";
+        int[][] refused = {{0, 1}, {0, -2}, {0, HIGH}, {0, LOW}, {-1, -1}, {3, -1}, {LOW, 0}, {HIGH, 0}, {1, 0}, {2, 1}};
+        votes = new FurnitureVotes();
+        due(Play.tell(votes, 0, -1, "damp 1;"), 0);
+        for (int[] asked : refused) {
+            Play.bring(votes, Play.bytes("bad bad bad"));
+            due(votes.image(0), true);
+            due(votes.text(asked[0], asked[1]), -2);
+            due(votes.fault(0), 0);
+            due(votes.fault(1), -1);
+            due(votes.end(1), -1);
+            due(votes.end(0), 0);
+            due(votes.feed(0x64616D70, 0x20373B20, 0x20202020, 0x20202020, 0x20202020), 20);
+            due(votes.text(0, 0), 0);
+            due(votes.chamber(0, 2), 7);
+            due(votes.again(0), true);
+            due(votes.end(12), -1);
+            due(votes.end(11), 11);
+            due(votes.chamber(0, 2), 1);
+            due(votes.end(0), 0);
+        }
+        for (int sort = 0; sort < 3; sort++) {
+            votes = new FurnitureVotes();
+            due(votes.text(sort, -1), 0);
+            due(votes.text(sort, -1), 1);
+            due(votes.feed(0, 0, 0, 0, 0), 20);
+            due(votes.text(sort, -1), -2);
+            due(votes.feed(0, 0, 0, 0, 0), 20);
+            due(votes.text(sort, 1), -1);
+            due(votes.fault(0), 1);
+            due(votes.fault(1), 0);
+            due(votes.feed(0, 0, 0, 0, 0), 20);
+        }
     }
 
     private static void chambers() {
