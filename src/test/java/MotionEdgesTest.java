@@ -142,6 +142,8 @@ public final class MotionEdgesTest extends Edges {
         // Person 0 could go to bench 2, but the row is less if person 1 goes to bench 0.
         firstRow("bench oak 0 5 0 1;bench oak 0 9 0 1;bench oak 0 3 0 1;sits 3 1;sits 5 1;", 1, 0);
         firstRow("bench oak 0 6 0 1;stands 3;stands 3;stands 3;", 0, 0, 8);
+        // Rows are told apart by their first number, even where the next one is the greatest: 0 8 3 comes ahead of 1 0 2.
+        firstRow("bench oak 0 3 0 1;bench oak 0 5 0 1;bench oak 0 99 0 1;bench oak 0 4 0 1;" + NO + "stands 5;stands 3;sits 4 2;", 0, 8, 3);
         firstRow("bench oak 0 3 0 1;bench oak 0 3 0 1;stool oak 1 1 0 1;stands 3;stands 3;stands 3;", 0, 1, 8);
         firstRow("stool oak 0 9 0 1;bench oak 0 6 0 1;sits 3 0;sits 3 0;sits 3 0;", 0, 1, 1);
     }

@@ -321,13 +321,21 @@ public final class TextEdgesTest extends Edges {
         }
         faulty(0, PIECE.repeat(9), 3, 8 * PIECE.length());
         term(1, 6, "a KIND, a WOOD, AGE, 0 .. 50");
-        numbers("bench oak ", " 1 0 1;", 30, 0, 50);
+        numbersOfAll("", " 1 0 1;", 30, 0, 50);
         term(1, 6, "LIMIT, 1 .. 99");
-        numbers("bench oak 0 ", " 0 1;", 40, 1, 99);
+        numbersOfAll("0 ", " 0 1;", 40, 1, 99);
         term(1, 6, "EAR, 0 .. 63");
-        numbers("bench oak 0 1 ", " 1;", 50, 0, 63);
+        numbersOfAll("0 1 ", " 1;", 50, 0, 63);
         term(1, 6, "VOICES, 1 .. 9");
-        numbers("bench oak 0 1 0 ", ";", 60, 1, 9);
+        numbersOfAll("0 1 0 ", ";", 60, 1, 9);
+    }
+
+    private static void numbersOfAll(String ahead, String behind, int what, int least, int most) {
+        for (String kind : new String[] {"bench", "stool", "chair", "table"}) {
+            for (String wood : new String[] {"oak", "walnut", "pine"}) {
+                numbers(kind + " " + wood + " " + ahead, behind, what, least, most);
+            }
+        }
     }
 
     /** Of the numbers 0 .. 99 those within may stand in the text, and are what chamber() answers. */
@@ -492,6 +500,9 @@ public final class TextEdgesTest extends Edges {
         }
         faulty(0, "z;", 1, 0);
         faulty(0, "dampa 3;", 1, 0);
+        faulty(0, "dampz 3;", 1, 0);
+        faulty(0, "adamp 3;", 1, 0);
+        faulty(0, "zdamp 3;", 1, 0);
         faulty(0, "dam 3;", 1, 0);
         term(1, 4, "NUMBERS, 1 or 2 digits");
         for (String number : new String[] {"7", "07"}) {
