@@ -109,6 +109,18 @@ public final class MotionEdgesTest extends Edges {
         due(votes.moves(0, 0, NONE), NONE);
         room("stool oak 0 1 0 1;" + AYE + "sits 1 0;sits 1 0;");
         due(votes.moves(0, 0, NONE), 2);
+        String fullRoom = "bench oak 0 99 0 1;".repeat(7) + "bench oak 0 6 0 1;";
+        room(fullRoom + "stands 1;".repeat(5) + "stands 6;");
+        due(votes.moves(0, 0, NONE), 1);
+        due(votes.moves(0, 0, 4), 8);
+        due(votes.moves(0, 0, 5), 7);
+        room(fullRoom + "stands 1;".repeat(4) + "stands 3;stands 3;");
+        due(votes.moves(0, 0, NONE), 2);
+        due(votes.moves(0, 0, 3), 8);
+        due(votes.moves(0, 0, 4), 7);
+        due(votes.moves(0, 0, 5), 7);
+        room(fullRoom + "stands 2;".repeat(6));
+        due(votes.moves(0, 0, NONE), NONE);
         promise(12, "MOVES: how many (k NONE), or where PERSON k sits then");
         room(AYE + "stands 1;stands 2;sits 3 0;stands 4;stands 5;sits 6 0;");
         int[] row = {8, 8, 0, 8, 8, 0};
@@ -173,6 +185,10 @@ public final class MotionEdgesTest extends Edges {
         room(AYE + NO.repeat(3));
         due(votes.waxed(0, 0, true, NONE), 3);
         room(AYE + NO.repeat(4));
+        due(votes.waxed(0, 0, true, NONE), NONE);
+        room(AYE.repeat(8));
+        due(votes.waxed(0, 0, false, NONE), NONE);
+        room("bench oak 0 1 0 1;".repeat(8));
         due(votes.waxed(0, 0, true, NONE), NONE);
         term(3, 13, "the first row of PIECES, rising (one may come more than once), by numbers");
         waxes("bench oak 12 1 0 1;", 0, 0, 0);
@@ -300,6 +316,8 @@ public final class MotionEdgesTest extends Edges {
         lobbies("stool oak 4 1 0 1;stool oak 4 1 0 1;bench oak 50 1 0 2;", new int[] {0, 1, 1, 1, 1}, new int[] {-1, 0, 0, 0, 0});
         lobbies(AYE, new int[] {1, 1, 0, 0, 0}, new int[] {-1, 8, -1, -1, -1});
         lobbies("bench oak 1 1 0 1;".repeat(8), new int[] {1, 1, 1, 1, 1}, new int[] {-1, 0, 0, 0, 0});
+        lobbies("bench oak 0 1 0 1;".repeat(8), new int[] {0, 0, 0, 0, 0}, new int[] {-1, -1, -1, -1, -1});
+        lobbies("bench oak 0 1 0 1;".repeat(7) + AYE, new int[] {1, 1, 0, 0, 0}, new int[] {-1, 0, -1, -1, -1});
         promise(16, "LOBBY of n: 1 if it is CARRIED, else 0");
         room(ALL_MATTERS);
         due(votes.lobby(0, 63, 0, false), 1);
@@ -381,6 +399,17 @@ public final class MotionEdgesTest extends Edges {
         leastSet(0);
         promise(17, "10 + p: SWINGS of a PIECE");
         power(voices(1, 1, 1, 1, 1, 1, 1, 9), 10, 0, 0, 0, 0, 0, 0, 0, 128);
+        // A full room asked ahead leaves nothing behind in a smaller one.
+        int[] few = {2, 1, 1};
+        for (int pieces = 3; pieces >= 0; pieces--) {
+            room(voices(1, 1, 1, 9, 1, 1, 1, 1));
+            due(votes.power(0, 13), 128);
+            tell(0, voices(java.util.Arrays.copyOf(few, pieces)));
+            due(votes.power(0, 10), pieces == 0 ? NONE : pieces == 3 ? 3 : pieces);
+            due(votes.power(0, 20), pieces == 0 ? NONE : pieces == 3 ? 2 : 1);
+            due(votes.power(0, 30), pieces == 0 ? NONE : pieces == 3 ? 3 : 1);
+            due(votes.power(0, 0), pieces == 3 ? 3 : pieces == 0 ? 0 : 1);
+        }
         promise(17, "20 + p, 30 + p: PART, N, D");
         power(voices(1, 1, 1, 1, 1, 1, 1, 9), 20, 0, 0, 0, 0, 0, 0, 0, 1);
         power(voices(1, 1, 1, 1, 1, 1, 1, 9), 30, 1, 1, 1, 1, 1, 1, 1, 1);

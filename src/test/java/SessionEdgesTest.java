@@ -257,6 +257,13 @@ public final class SessionEdgesTest extends Edges {
         due(votes.state(0, 0, 2, 3), 3);
         due(behind("stool oak 1 1 0 1;".repeat(8), "motion 0;", 3), 255);
         due(behind("stool oak 0 1 0 1;".repeat(8), "motion 0;", 3), 0);
+        room("stool oak 0 1 0 1;".repeat(8) + "sits 1 7;".repeat(6), "motion 0;");
+        due(votes.state(0, 0, 1, 3), 128);
+        due(votes.state(0, 0, 1, 37), 0);
+        for (int w = 0; w < 6; w++) {
+            due(votes.state(0, 0, 0, 40 + w), 7);
+            due(votes.state(0, 0, 1, 40 + w), 8);
+        }
         // A chair or a table that says NO stays.
         due(behind("chair oak 0 9 0 1;sits 1 0;", "motion 0;", 5), 1);
         due(behind("chair oak 0 9 0 1;sits 1 0;", "motion 0;", 3), 0);
